@@ -829,13 +829,14 @@ public final class FractionRows {
         boolean run(Fraction[] rows, int way, int end) {
             begin(rows);
             for (int j = 0; j < n; j++) {
-                int place = choose(j, way);
-                if (place >= 0) {
-                    bring(place, j);
-                    for (int behind = rank; behind < n; behind++) {
-                        if (!at(behind, j).isZero() && !clearColumn(behind, j, end)) {
-                            return false;
-                        }
+                int chosen = choose(j, way);
+                if (chosen < 0) {
+                    continue;
+                }
+                bring(chosen, j);
+                for (int place = rank; place < n; place++) {
+                    if (!at(place, j).isZero() && !clearColumn(place, j, end)) {
+                        return false;
                     }
                 }
             }
@@ -1072,7 +1073,9 @@ public final class FractionRows {
             boolean odd = false;
             for (int i = 0; i < n; i++) {
                 for (int k = i + 1; k < n; k++) {
-                    odd ^= order[i] > order[k];
+                    if (order[i] > order[k]) {
+                        odd = !odd;
+                    }
                 }
             }
             return odd;
