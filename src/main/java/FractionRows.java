@@ -483,10 +483,13 @@ public final class FractionRows {
                 limbs[i] = (int) carry;
                 carry >>>= 32;
             }
-            append((int) carry);
+            if (carry != 0 && length < ROOM) {
+                limbs[length] = (int) carry;
+                length++;
+            }
         }
 
-        /** By 0 to 31 bits. */
+        /** By 0 to 31 bits; it is for the caller to trim. */
         void shiftRight(int shift) {
             long above = 0;
             for (int i = length - 1; i >= 0; i--) {
@@ -494,7 +497,6 @@ public final class FractionRows {
                 limbs[i] = (int) ((above << 32 | own) >>> shift);
                 above = own;
             }
-            trim();
         }
 
         /** The rest by p, which is above 0. */
@@ -649,34 +651,35 @@ public final class FractionRows {
             divided.shiftLeft(shift);
             int top = Math.min(divided.length, Whole.ROOM - 1) - divisor.length;
             for (int j = top; j >= 0; j--) {
-                to.limbs[j] = (int) findLimb(divided, j);
+                long limb = guessLimb(divided, j);
+                boolean isBelow = divided.takeTimes(limb, scaledDivisor, j);
+                for (int turn = 0; turn < 2 && isBelow; turn++) {
+                    limb--;
+                    isBelow = divided.giveBack(scaledDivisor, j);
+                }
+                to.limbs[j] = (int) limb;
             }
             to.length = top + 1;
             to.trim();
             divided.shiftRight(shift);
+            divided.trim();
         }
 
         /**
-         * Limb j of a quotient by scaledDivisor, whose highest bit is set: so the guess from the
+         * Limb j of a quotient by scaledDivisor, whose highest bit is set: so this guess from the
          * highest limbs is never too low, and too high by 2 at most.
          */
-        private long findLimb(Whole divided, int j) {
+        private long guessLimb(Whole divided, int j) {
             int n = scaledDivisor.length;
             long high = divided.limbs[j + n] & Whole.LOW;
             long divisor = scaledDivisor.limbs[n - 1] & Whole.LOW;
-            long guess = Whole.LOW;
-            if (high < divisor) {
-                long pair = high << 32 | (divided.limbs[j + n - 1] & Whole.LOW);
-                // The pair may fill all 64 bits: half of it is divided, then what that left out.
-                guess = ((pair >>> 1) / divisor) << 1;
-                guess += pair - guess * divisor >= divisor ? 1 : 0;
+            if (high >= divisor) {
+                return Whole.LOW;
             }
-            boolean isBelow = divided.takeTimes(guess, scaledDivisor, j);
-            for (int turn = 0; turn < 2 && isBelow; turn++) {
-                guess--;
-                isBelow = divided.giveBack(scaledDivisor, j);
-            }
-            return guess;
+            long pair = high << 32 | (divided.limbs[j + n - 1] & Whole.LOW);
+            // The pair may fill all 64 bits: half of it is divided, then what that left out.
+            long guess = ((pair >>> 1) / divisor) << 1;
+            return pair - guess * divisor >= divisor ? guess + 1 : guess;
         }
 
         /** common becomes the greatest number that divides both. */

@@ -738,8 +738,10 @@ public final class PromisesTest {
         due("0 by 2147483647", x.rest(zero, Integer.MAX_VALUE), 0);
         due("- 2^63 by 2147483647", x.rest(least, Integer.MAX_VALUE), Integer.MAX_VALUE - 2);
         due("v is a multiple", x.rest(a, 7), ZERO);
-        int[] others = {Integer.MIN_VALUE, -7, -1, 0, 1, 4, 6, 9, 15, 25, 49, 121, 2047, 1373653,
-            25326001, 2147483645, 2147483646, 46349 * 46327, 2147117569};
+        // Those from 2047 on pass for primes by one, two or three of the bases 2, 3, 5, 7.
+        int[] others = {Integer.MIN_VALUE, -7, -1, 0, 1, 4, 6, 9, 15, 25, 49, 121, 2147483645, 2147483646,
+            46349 * 46327, 2147117569, 2047, 1373653, 25326001, 1157839381, 2284453, 1856689453,
+            746331041, 1024651, 255866131};
         for (int p : others) {
             due("no prime " + p, x.rest(zero, p), BAD);
         }
