@@ -1,3 +1,5 @@
+import java.math.BigInteger;
+
 /** A FractionRows and a Model that get the same calls; the first answer that differs is told with the run. */
 final class Pair {
     private final FractionRows real;
@@ -53,6 +55,7 @@ final class Pair {
             got = real.quotient(a, b);
         } catch (ArithmeticException e) {
             got = THROWN;
+            onlyOwn(e);
         }
         try {
             want = model.quotient(a, b);
@@ -60,6 +63,13 @@ final class Pair {
             want = THROWN;
         }
         return same(call("quotient", a, b), got, want);
+    }
+
+    /** The machine's own exception of a division bears this text. */
+    private void onlyOwn(ArithmeticException e) {
+        if (e.getClass() != ArithmeticException.class || "/ by zero".equals(e.getMessage())) {
+            throw new AssertionError(run + "the machine threw " + e);
+        }
     }
 
     int drop() {
@@ -168,6 +178,28 @@ final class Pair {
 
     int clear() {
         return same("clear()", real.clear(), model.clear());
+    }
+
+    /** A NUMBER as u/v. */
+    String show(int a) {
+        return (about(a, 0) == 1 ? "-" : "") + whole(a, 0) + "/" + whole(a, 1);
+    }
+
+    private BigInteger whole(int a, int part) {
+        BigInteger whole = BigInteger.ZERO;
+        for (int k = about(a, 1 + part) - 1; k >= 0; k--) {
+            whole = whole.shiftLeft(32).or(BigInteger.valueOf(limb(a, part, k) & 0xFFFFFFFFL));
+        }
+        return whole;
+    }
+
+    /** THE TEXT, up to the first sign that there is none of. */
+    String text() {
+        StringBuilder text = new StringBuilder();
+        for (int sign = sign(0); sign != FractionRows.BAD; sign = sign(text.length())) {
+            text.append((char) sign);
+        }
+        return text.toString();
     }
 
     /** Every part of every NUMBER, of THE TEXT and of what is SOLVED; these calls change nothing. */

@@ -1,10 +1,14 @@
 import java.math.BigInteger;
+import java.util.ArrayList;
+import java.util.List;
 
 /** Each promise of the document by hand: ordinary inputs, the edges it names, wrong inputs. */
 public final class PromisesTest {
     private static final int BAD = FractionRows.BAD, ZERO = FractionRows.ZERO, GREW = FractionRows.GREW,
         FULL = FractionRows.FULL, STATE = FractionRows.STATE, NONE = FractionRows.NONE;
     private static final BigInteger WIDE_END = BigInteger.ONE.shiftLeft(192);
+
+    private static final List<Pair> PAIRS = new ArrayList<>();
 
     private static int promise;
     private static int checks;
@@ -40,6 +44,9 @@ public final class PromisesTest {
         promise24Sign();
         promise25Count();
         promise26Clear();
+        for (Pair x : PAIRS) {
+            due("calls of one object within what is promised", x.calls() <= Checks.MOST_CALLS, true);
+        }
         System.out.println(checks + " checks of 26 promises, " + wrong + " wrong");
         if (wrong != 0) {
             System.exit(1);
@@ -56,43 +63,19 @@ public final class PromisesTest {
         }
     }
 
-    private static BigInteger whole(FractionRows x, int a, int part) {
-        BigInteger whole = BigInteger.ZERO;
-        for (int k = x.about(a, 1 + part) - 1; k >= 0; k--) {
-            whole = whole.shiftLeft(32).add(BigInteger.valueOf(x.limb(a, part, k) & 0xFFFFFFFFL));
-        }
-        return whole;
+    private static Pair made(int n) {
+        Pair x = new Pair(n);
+        PAIRS.add(x);
+        return x;
     }
 
-    /** A NUMBER as u/v. */
-    private static String show(FractionRows x, int a) {
-        return (x.about(a, 0) == 1 ? "-" : "") + whole(x, a, 0) + "/" + whole(x, a, 1);
+    private static void number(Pair x, int a, String want) {
+        due("NUMBER " + a, a < 0 ? "refused by " + a : x.show(a), want);
     }
 
-    private static void number(FractionRows x, int a, String want) {
-        due("NUMBER " + a, a < 0 ? "refused by " + a : show(x, a), want);
-    }
-
-    private static String text(FractionRows x, int signs) {
-        StringBuilder text = new StringBuilder();
-        for (int i = 0; i < signs; i++) {
-            text.append((char) x.sign(i));
-        }
-        return text.toString();
-    }
-
-    /** The whole number as a NUMBER, made of 31 bits at a time; ENTRY 0 of ROW 0 is used for it. */
-    private static int big(FractionRows x, BigInteger whole) {
-        x.entry(0, 0, 0, 1);
-        for (int k = (whole.bitLength() + 30) / 31 - 1; k >= 0; k--) {
-            int made = x.take(0, 0);
-            int scaled = x.act(2, made, x.value(1L << 31, 1));
-            int part = x.value(whole.shiftRight(31 * k).intValue() & 0x7FFFFFFFL, 1);
-            x.put(0, 0, x.act(0, scaled, part));
-            while (x.count(0) > made) {
-                x.drop();
-            }
-        }
+    /** The whole number as a NUMBER; ENTRY 0 of ROW 0 is used for it. */
+    private static int big(Pair x, BigInteger whole) {
+        Checks.load(x, 0, 0, whole.toString());
         return x.take(0, 0);
     }
 
@@ -100,13 +83,13 @@ public final class PromisesTest {
         return BigInteger.valueOf(base).pow(exponent);
     }
 
-    private static FractionRows filled(int n, long... entries) {
-        FractionRows x = new FractionRows(n);
+    private static Pair filled(int n, long... entries) {
+        Pair x = made(n);
         refill(x, n, entries);
         return x;
     }
 
-    private static void refill(FractionRows x, int n, long... entries) {
+    private static void refill(Pair x, int n, long... entries) {
         for (int i = 0; i < n; i++) {
             for (int j = 0; j <= n; j++) {
                 x.entry(i, j, entries[i * (n + 1) + j], 1);
@@ -114,28 +97,18 @@ public final class PromisesTest {
         }
     }
 
-    private static void fill(FractionRows x) {
+    private static void fill(Pair x) {
         while (x.count(0) < 40) {
             x.value(7, 2);
         }
     }
 
-    private static boolean limbThrows(FractionRows x, int a, int part, int k) {
-        try {
-            x.limb(a, part, k);
-            return false;
-        } catch (IndexOutOfBoundsException e) {
-            return e.getClass() == IndexOutOfBoundsException.class;
-        }
+    private static boolean limbThrows(Pair x, int a, int part, int k) {
+        return x.limb(a, part, k) == Pair.THROWN;
     }
 
-    private static boolean quotientThrows(FractionRows x, int a, int b) {
-        try {
-            x.quotient(a, b);
-            return false;
-        } catch (ArithmeticException e) {
-            return true;
-        }
+    private static boolean quotientThrows(Pair x, int a, int b) {
+        return x.quotient(a, b) == Pair.THROWN;
     }
 
     // ---- numbers
@@ -145,7 +118,7 @@ public final class PromisesTest {
         int[][] cases = {{1, 1}, {3, 3}, {5, 5}, {0, 1}, {-1, 1}, {Integer.MIN_VALUE, 1}, {6, 5},
             {Integer.MAX_VALUE, 5}};
         for (int[] c : cases) {
-            FractionRows x = new FractionRows(c[0]);
+            Pair x = made(c[0]);
             due("ROWS of " + c[0], x.count(2), c[1]);
             due("NUMBERS", x.count(0), 0);
             due("primes", x.count(1), 0);
@@ -154,7 +127,7 @@ public final class PromisesTest {
             due("no ROW behind it", x.entry(c[1], 0, 1, 1), BAD);
             due("no ENTRY behind it", x.entry(0, c[1] + 1, 1, 1), BAD);
         }
-        FractionRows x = new FractionRows(5);
+        Pair x = made(5);
         for (int i = 0; i < 5; i++) {
             for (int j = 0; j <= 5; j++) {
                 number(x, x.take(i, j), "0/1");
@@ -166,7 +139,7 @@ public final class PromisesTest {
 
     private static void promise2Value() {
         promise = 2;
-        FractionRows x = new FractionRows(1);
+        Pair x = made(1);
         due("number", x.value(6, 4), 0);
         number(x, 0, "3/2");
         number(x, x.value(-6, 4), "-3/2");
@@ -194,7 +167,7 @@ public final class PromisesTest {
 
     private static void promise3Act() {
         promise = 3;
-        FractionRows x = new FractionRows(1);
+        Pair x = made(1);
         int a = x.value(5, 6);
         int b = x.value(-3, 4);
         int zero = x.value(0, 1);
@@ -226,7 +199,7 @@ public final class PromisesTest {
     }
 
     private static void promise3ActAtTheEdgeOfWide() {
-        FractionRows x = new FractionRows(1);
+        Pair x = made(1);
         int most = big(x, WIDE_END.subtract(BigInteger.ONE));
         number(x, most, WIDE_END.subtract(BigInteger.ONE) + "/1");
         int one = x.value(1, 1);
@@ -248,7 +221,7 @@ public final class PromisesTest {
         due("GREW is counted", x.count(3), 5);
 
         // What is made whole is over 2^192 before it is in lowest terms, and fits then.
-        x = new FractionRows(1);
+        x = made(1);
         BigInteger p = power(2, 100).add(BigInteger.valueOf(277));
         int upper = x.act(3, big(x, p), big(x, power(3, 100)));
         int other = x.act(3, big(x, power(3, 100)), big(x, p.multiply(BigInteger.valueOf(8))));
@@ -260,7 +233,7 @@ public final class PromisesTest {
 
     private static void promise4Quotient() {
         promise = 4;
-        FractionRows x = new FractionRows(1);
+        Pair x = made(1);
         due("no NUMBERS", x.quotient(0, 0), BAD);
         int a = x.value(5, 6);
         int b = x.value(-3, 4);
@@ -285,7 +258,7 @@ public final class PromisesTest {
 
     private static void promise5Drop() {
         promise = 5;
-        FractionRows x = new FractionRows(1);
+        Pair x = made(1);
         due("none", x.drop(), STATE);
         x.value(1, 2);
         x.value(1, 3);
@@ -299,7 +272,7 @@ public final class PromisesTest {
 
     private static void promise6Compare() {
         promise = 6;
-        FractionRows x = new FractionRows(1);
+        Pair x = made(1);
         due("none", x.compare(0, 0), -2);
         long[][] rising = {{Long.MIN_VALUE, 1}, {-3, 2}, {-1, 2}, {-1, 3}, {0, 1}, {1, 3}, {1, 2},
             {2, 3}, {Long.MAX_VALUE - 1, Long.MAX_VALUE}, {1, 1}, {3, 2}, {Long.MAX_VALUE, 1}};
@@ -324,7 +297,7 @@ public final class PromisesTest {
 
     private static void promise7About() {
         promise = 7;
-        FractionRows x = new FractionRows(1);
+        Pair x = made(1);
         int a = x.value(-3, 8);
         int zero = x.value(0, 1);
         int b = x.value(1L << 32, 3);
@@ -353,7 +326,7 @@ public final class PromisesTest {
 
     private static void promise8Limb() {
         promise = 8;
-        FractionRows x = new FractionRows(1);
+        Pair x = made(1);
         due("no NUMBER", limbThrows(x, 0, 0, 0), true);
         int a = x.value(-0x1234567890ABCDEFL, 0x1000000000000000L);
         due("u 0", x.limb(a, 0, 0), 0x90ABCDEF);
@@ -382,7 +355,7 @@ public final class PromisesTest {
 
     private static void promise9Entry() {
         promise = 9;
-        FractionRows x = new FractionRows(2);
+        Pair x = made(2);
         due("an ENTRY", x.entry(1, 0, 6, -4), 1);
         due("a RIGHT side", x.entry(1, 2, Long.MIN_VALUE, -2), 1);
         number(x, x.take(1, 0), "-3/2");
@@ -402,7 +375,7 @@ public final class PromisesTest {
 
     private static void promise10Put() {
         promise = 10;
-        FractionRows x = new FractionRows(2);
+        Pair x = made(2);
         due("no NUMBER yet", x.put(0, 0, 0), BAD);
         int a = x.value(-7, 3);
         due("put", x.put(0, 1, a), 1);
@@ -424,7 +397,7 @@ public final class PromisesTest {
 
     private static void promise11Take() {
         promise = 11;
-        FractionRows x = new FractionRows(2);
+        Pair x = made(2);
         x.entry(0, 2, 4, 6);
         due("its number", x.take(0, 2), 0);
         number(x, 0, "2/3");
@@ -442,7 +415,7 @@ public final class PromisesTest {
 
     private static void promise12Solve() {
         promise = 12;
-        FractionRows x = filled(2, 1, 2, 5, 3, 4, 11);
+        Pair x = filled(2, 1, 2, 5, 3, 4, 11);
         due("RANK", x.solve(0), 2);
         number(x, x.unknown(0), "1/1");
         number(x, x.unknown(1), "2/1");
@@ -466,12 +439,12 @@ public final class PromisesTest {
         number(x, x.unknown(0), "0/1");
         number(x, x.unknown(1), "3/1");
         number(x, x.unknown(2), "0/1");
-        due("all 0", new FractionRows(4).solve(1), 0);
+        due("all 0", made(4).solve(1), 0);
     }
 
     private static void promise12SolveThatGrew() {
         // The factor fits, the product does not: 2^100 / 1, and 2^100 in the PIVOT's row.
-        FractionRows x = new FractionRows(2);
+        Pair x = made(2);
         int large = big(x, power(2, 100));
         x.entry(0, 0, 1, 1);
         x.put(0, 1, large);
@@ -512,7 +485,7 @@ public final class PromisesTest {
 
     private static void promise13Answers() {
         promise = 13;
-        FractionRows x = new FractionRows(2);
+        Pair x = made(2);
         due("nothing SOLVED", x.answers(), STATE);
         refill(x, 2, 1, 1, 2, 2, 2, 4);
         x.solve(0);
@@ -524,7 +497,7 @@ public final class PromisesTest {
         x.entry(1, 1, 3, 1);
         x.solve(1);
         due("one", x.answers(), 1);
-        x = new FractionRows(1);
+        x = made(1);
         x.solve(0);
         due("0 = 0", x.answers(), 2);
         x.entry(0, 1, 1, 9);
@@ -534,7 +507,7 @@ public final class PromisesTest {
 
     private static void promise14Unknown() {
         promise = 14;
-        FractionRows x = filled(3, 2, 1, -1, 8, -3, -1, 2, -11, -2, 1, 2, -3);
+        Pair x = filled(3, 2, 1, -1, 8, -3, -1, 2, -11, -2, 1, 2, -3);
         due("nothing SOLVED", x.unknown(0), STATE);
         due("STATE ahead of BAD", x.unknown(9), STATE);
         x.solve(1);
@@ -551,7 +524,7 @@ public final class PromisesTest {
         due("no answers", x.unknown(0), STATE);
         due("STATE ahead of BAD", x.unknown(3), STATE);
         // x0 + 2 x1 + 3 x2 = 7/2 with x1, x2 FREE
-        x = new FractionRows(3);
+        x = made(3);
         x.entry(2, 0, 1, 3);
         x.entry(2, 1, 2, 1);
         x.entry(2, 3, 7, 2);
@@ -563,7 +536,7 @@ public final class PromisesTest {
 
     private static void promise15Pivot() {
         promise = 15;
-        FractionRows x = filled(3, 4, 0, 1, 1, 3, 0, 2, 1, 2, 0, 3, 1);
+        Pair x = filled(3, 4, 0, 1, 1, 3, 0, 2, 1, 2, 0, 3, 1);
         due("nothing SOLVED", x.pivot(0, 0), STATE);
         due("STATE ahead of BAD", x.pivot(7, 7), STATE);
         due("RANK", x.solve(0), 2);
@@ -600,7 +573,7 @@ public final class PromisesTest {
 
     private static void promise16Holds() {
         promise = 16;
-        FractionRows x = filled(2, 1, 1, 3, 1, -1, 1);
+        Pair x = filled(2, 1, 1, 3, 1, -1, 1);
         due("nothing SOLVED", x.holds(0), STATE);
         due("STATE ahead of BAD", x.holds(5), STATE);
         x.solve(0);
@@ -635,7 +608,7 @@ public final class PromisesTest {
 
     private static void promise17Determinant() {
         promise = 17;
-        FractionRows x = filled(3, 0, 2, 1, 9, 3, 0, -1, 9, 1, 1, 4, 9);
+        Pair x = filled(3, 0, 2, 1, 9, 3, 0, -1, 9, 1, 1, 4, 9);
         for (int way = 0; way < 3; way++) {
             number(x, x.determinant(way), "-23/1");
         }
@@ -678,7 +651,7 @@ public final class PromisesTest {
     }
 
     private static void promise17DeterminantThatGrew() {
-        FractionRows x = filled(2, 0, 0, 0, 0, 0, 0);
+        Pair x = filled(2, 0, 0, 0, 0, 0, 0);
         int large = big(x, power(2, 100));
         x.put(0, 0, large);
         x.put(1, 1, large);
@@ -723,7 +696,7 @@ public final class PromisesTest {
 
     private static void promise18Rest() {
         promise = 18;
-        FractionRows x = new FractionRows(1);
+        Pair x = made(1);
         due("no NUMBER", x.rest(0, 7), BAD);
         int a = x.value(22, 7);
         int b = x.value(-22, 7);
@@ -754,6 +727,10 @@ public final class PromisesTest {
             for (int k = 2 * p; k < split.length && !split[p]; k += p) {
                 split[k] = true;
             }
+            if (x.calls() >= Checks.MOST_CALLS - 1) {
+                x = made(1);
+                zero = x.value(0, 1);
+            }
             unlike += x.rest(zero, p) == (split[p] ? BAD : 0) ? 0 : 1;
         }
         due("primes below 200000 that are told wrongly", unlike, 0);
@@ -761,7 +738,7 @@ public final class PromisesTest {
 
     private static void promise19Meet() {
         promise = 19;
-        FractionRows x = new FractionRows(1);
+        Pair x = made(1);
         due("first", x.meet(3, 2), 1);
         due("second", x.meet(5, 3), 2);
         due("third", x.meet(7, 2), 3);
@@ -787,7 +764,7 @@ public final class PromisesTest {
         due("J by 2147483647", x.rest(j, Integer.MAX_VALUE), Integer.MAX_VALUE - 1);
 
         // M up to the edge: the product of primes stays below 2^192, the next is refused.
-        x = new FractionRows(1);
+        x = made(1);
         BigInteger m = BigInteger.ONE;
         int p = Integer.MAX_VALUE;
         int primes = 0;
@@ -810,7 +787,7 @@ public final class PromisesTest {
 
     private static void promise20Joined() {
         promise = 20;
-        FractionRows x = new FractionRows(1);
+        Pair x = made(1);
         due("J", x.joined(0), 0);
         due("M", x.joined(1), 1);
         number(x, 0, "0/1");
@@ -828,7 +805,7 @@ public final class PromisesTest {
 
     private static void promise21Recover() {
         promise = 21;
-        FractionRows x = new FractionRows(1);
+        Pair x = made(1);
         due("M is 1", x.recover(), NONE);
         x.meet(2, 1);
         due("M is 2: twice 1 is not below it", x.recover(), NONE);
@@ -842,7 +819,7 @@ public final class PromisesTest {
         due("FULL ahead of NONE", x.recover(), FULL);
         smallOnesAll();
         // A fraction from its rests.
-        x = new FractionRows(1);
+        x = made(1);
         int a = x.value(-314159265358979L, 271828182845904L);
         int p = Integer.MAX_VALUE;
         for (int i = 0; i < 4; i++) {
@@ -853,7 +830,7 @@ public final class PromisesTest {
         }
         int told = x.recover();
         due("the same", x.compare(a, told), 0);
-        number(x, told, show(x, a));
+        number(x, told, x.show(a));
     }
 
     /** All J of some M, each by trying all u and v. */
@@ -864,16 +841,14 @@ public final class PromisesTest {
             for (int p : primes) {
                 m *= p;
             }
-            FractionRows x = new FractionRows(1);
             for (int j = 0; j < m; j++) {
-                x.part();
+                Pair x = made(1);
                 for (int p : primes) {
                     x.meet(p, j % p);
                 }
                 int made = x.recover();
                 String want = told(j, m);
-                due(j + " by " + m, made == NONE ? "none" : show(x, made), want);
-                x.clear();
+                due(j + " by " + m, made == NONE ? "none" : x.show(made), want);
             }
         }
     }
@@ -892,7 +867,7 @@ public final class PromisesTest {
 
     private static void promise22Part() {
         promise = 22;
-        FractionRows x = new FractionRows(1);
+        Pair x = made(1);
         due("none", x.part(), 0);
         x.meet(3, 1);
         x.meet(5, 1);
@@ -907,16 +882,16 @@ public final class PromisesTest {
 
     // ---- decimals
 
-    private static void written(FractionRows x, int a, int digits, boolean up, String want) {
+    private static void written(Pair x, int a, int digits, boolean up, String want) {
         int signs = x.decimals(a, digits, up);
         due("how many signs", signs, want.length());
-        due(digits + " digits" + (up ? " up" : ""), text(x, signs), want);
+        due(digits + " digits" + (up ? " up" : ""), x.text(), want);
         due("no sign behind", x.sign(signs), BAD);
     }
 
     private static void promise23Decimals() {
         promise = 23;
-        FractionRows x = new FractionRows(1);
+        Pair x = made(1);
         int third = x.value(1, 3);
         int minus = x.value(-1, 3);
         int zero = x.value(0, 1);
@@ -960,7 +935,7 @@ public final class PromisesTest {
 
     private static void promise24Sign() {
         promise = 24;
-        FractionRows x = new FractionRows(1);
+        Pair x = made(1);
         due("empty at first", x.sign(0), BAD);
         int a = x.value(-25, 2);
         x.decimals(a, 1, false);
@@ -980,7 +955,7 @@ public final class PromisesTest {
 
     private static void promise25Count() {
         promise = 25;
-        FractionRows x = new FractionRows(4);
+        Pair x = made(4);
         x.value(Long.MIN_VALUE, 1);
         x.act(2, 0, 0);
         x.act(2, 1, 0);
@@ -1002,7 +977,7 @@ public final class PromisesTest {
 
     private static void promise26Clear() {
         promise = 26;
-        FractionRows x = filled(2, 1, 2, 3, 4, 5, 6);
+        Pair x = filled(2, 1, 2, 3, 4, 5, 6);
         due("none", x.clear(), 0);
         refill(x, 2, 1, 2, 3, 4, 5, 6);
         x.value(Long.MIN_VALUE, 1);
