@@ -1,18 +1,18 @@
-import java.util.function.IntFunction;
+import java.util.function.Supplier;
 
 /** Each call with each of many arguments, in each of some states, against the Model: none may throw by itself. */
 public final class ArgumentsTest {
     private static final int[] VALUES = {Integer.MIN_VALUE, Integer.MIN_VALUE + 1, -65536, -7, -2, -1, 0, 1, 2, 3, 4,
         5, 6, 7, 16, 30, 31, 39, 40, 41, 90, 101, 65537, 2147483629, Integer.MAX_VALUE - 1, Integer.MAX_VALUE};
     private static final int NAMED_CALLS = 14;
-    /** A state takes fewer than 150 calls to make. */
+    /** Behind so many an answer is free; then the state is made anew. */
     private static final int MOST_CALLS = 512;
 
-    private final IntFunction<Pair> state;
+    private final Supplier<Pair> state;
     private Pair pair;
     private int calls;
 
-    private ArgumentsTest(IntFunction<Pair> state) {
+    private ArgumentsTest(Supplier<Pair> state) {
         this.state = state;
     }
 
@@ -20,11 +20,11 @@ public final class ArgumentsTest {
         int calls = 0;
         for (int n = 1; n <= 5; n += 2) {
             int size = n;
-            calls += new ArgumentsTest(k -> new Pair(size)).callAll();
-            calls += new ArgumentsTest(k -> some(size)).callAll();
-            calls += new ArgumentsTest(k -> full(size)).callAll();
-            calls += new ArgumentsTest(k -> withoutAnswers(size)).callAll();
-            calls += new ArgumentsTest(k -> wide(size)).callAll();
+            calls += new ArgumentsTest(() -> new Pair(size)).callAll();
+            calls += new ArgumentsTest(() -> some(size)).callAll();
+            calls += new ArgumentsTest(() -> full(size)).callAll();
+            calls += new ArgumentsTest(() -> withoutAnswers(size)).callAll();
+            calls += new ArgumentsTest(() -> wide(size)).callAll();
         }
         System.out.println(calls + " calls are as the model's");
     }
@@ -92,7 +92,7 @@ public final class ArgumentsTest {
     private void renew() {
         if (pair == null || pair.calls() >= MOST_CALLS) {
             calls += pair == null ? 0 : pair.calls();
-            pair = state.apply(0);
+            pair = state.get();
         }
     }
 

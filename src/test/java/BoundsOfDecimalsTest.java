@@ -264,6 +264,9 @@ public final class BoundsOfDecimalsTest extends Checks {
                 }
             }
             due("RANK", x.solve(0), 0);
+            for (int i = 0; i < n; i++) {
+                due("0 is 0, though it was below 0", x.holds(i), 1);
+            }
         }
     }
 
